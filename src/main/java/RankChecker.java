@@ -26,15 +26,15 @@ public final class RankChecker {
     private final int[] ends;
 
     public RankChecker() {
-        reader = new Reader();
-        shelf = new Shelf();
-        judge = new Judge();
-        worker = new Worker();
-        teller = new Teller();
-        judgement = new Judgement();
-        trial = new Judgement();
         latest = new Term();
         spare = new Term();
+        shelf = new Shelf();
+        judgement = new Judgement();
+        trial = new Judgement();
+        reader = new Reader(spare);
+        judge = new Judge(judgement, latest);
+        worker = new Worker(latest, shelf);
+        teller = new Teller();
         inferred = false;
         mostSteps = 0;
         ends = new int[3];
@@ -77,7 +77,8 @@ public final class RankChecker {
         spare = latest;
         latest = read;
         inferred = true;
-        judge.inferAll(judgement, latest, shelf, Judgement.MOST_STEPS);
+        judge.startTerm(judgement, latest, shelf, Judgement.MOST_STEPS);
+        judge.run();
         return counted();
     }
 
@@ -86,7 +87,8 @@ public final class RankChecker {
             return NONE;
         }
         reader.length = 0;
-        judge.compare(judgement, reader.first, reader.second);
+        judge.startTypes(judgement, reader.first, reader.second);
+        judge.run();
         return counted();
     }
 
@@ -215,22 +217,17 @@ public final class RankChecker {
             return FIRST_FAULT - place;
         }
         reader.length = 0;
-        int answer = firstNoted(reader.first);
+        int answer = NONE;
+        int used = 0;
+        for (int node = 0; node < latest.size && used < ASKED_STEPS && answer == NONE; node++) {
+            latest.wrap(node, reader.first);
+            judge.startTerm(trial, latest, shelf, Math.min(Judgement.MOST_STEPS, ASKED_STEPS - used));
+            judge.run();
+            used += trial.steps;
+            answer = trial.verdict == Judgement.RIGHT ? latest.at(node) : NONE;
+        }
         latest.unwrap();
         return answer;
-    }
-
-    private int firstNoted(Row asked) {
-        int used = 0;
-        for (int node = 0; node < latest.size && used < ASKED_STEPS; node++) {
-            latest.wrap(node, asked);
-            judge.inferAll(trial, latest, shelf, Math.min(Judgement.MOST_STEPS, ASKED_STEPS - used));
-            if (trial.verdict == Judgement.RIGHT) {
-                return latest.at(node);
-            }
-            used += trial.steps;
-        }
-        return NONE;
     }
 
     public int tells(int what) {
@@ -251,7 +248,8 @@ public final class RankChecker {
         if (!shelf.has(i) || !shelf.has(other)) {
             return NONE;
         }
-        judge.compare(trial, shelf.types[i], shelf.types[other]);
+        judge.startTypes(trial, shelf.types[i], shelf.types[other]);
+        judge.run();
         return trial.verdict;
     }
 
@@ -321,7 +319,7 @@ public final class RankChecker {
         }
 
         static int partsOf(int sign) {
-            int kind = kindOf(sign);
+            int kind = sign & 15;
             if (kind == ARROW || kind == PAIR) {
                 return 2;
             }
@@ -418,8 +416,8 @@ public final class RankChecker {
         static final int MOST = 120;
         /** What one step may add without another one begun stays below the rest of this room. */
         private static final int ROOM = 480;
-        /** A step keeps one type at most, beside what its splits need. */
-        private static final int TYPES_ROOM = 160 * Judgement.MOST_STEPS + 8 * Shelf.SIGNS + 1000;
+        /** A step that keeps a long type comes with another one that keeps none: a few signs more than half of them all. */
+        private static final int TYPES_ROOM = (Judgement.MOST_STEPS / 2 + 12) * (Judgement.MOST_SIGNS + 4) + 8 * Shelf.SIGNS;
         private static final int TURNS = 1000000;
 
         final int[] kinds;
@@ -680,7 +678,8 @@ public final class RankChecker {
     private static final class Todo {
         private static final int WIDTH = 6;
         private static final int ITEMS = 5 * Judgement.MOST_STEPS;
-        private static final int TYPES_ROOM = 24000;
+        /** Far above twenty expressions within one another, each with what waits behind it. */
+        private static final int TYPES_ROOM = 16000;
 
         int job;
         int depth;
@@ -696,7 +695,14 @@ public final class RankChecker {
         Todo() {
             items = new int[ITEMS * WIDTH];
             held = new int[TYPES_ROOM];
-            clear();
+            job = 0;
+            depth = 0;
+            node = NONE;
+            a = NONE;
+            b = NONE;
+            size = 0;
+            used = 0;
+            full = false;
         }
 
         void clear() {
@@ -883,14 +889,14 @@ public final class RankChecker {
         private int inner;
         private int begunAt;
 
-        Judge() {
+        Judge(Judgement into, Term what) {
             todo = new Todo();
             left = new Row(Judgement.MOST_SIGNS);
             right = new Row(Judgement.MOST_SIGNS);
             out = new Row(Judgement.MOST_SIGNS);
-            record = null;
-            context = null;
-            term = null;
+            record = into;
+            context = into.context;
+            term = what;
             limit = 0;
             inner = 0;
             begunAt = NONE;
@@ -908,7 +914,8 @@ public final class RankChecker {
             out.clear();
         }
 
-        void inferAll(Judgement into, Term what, Shelf shelf, int most) {
+        /** A judgement of an expression, with the shelf ahead of all. */
+        void startTerm(Judgement into, Term what, Shelf shelf, int most) {
             start(into, true, most);
             term = what;
             for (int i = 0; i < shelf.size; i++) {
@@ -916,31 +923,17 @@ public final class RankChecker {
                 context.addName(shelf.names[i], row, 0, row.length);
             }
             todo.push(INFER, 0, term.root(), NONE, NONE);
-            runAll();
-            if (record.verdict != Judgement.GOING) {
-                return;
-            }
-            context.take(out.signs, 0, out.length, record.found);
-            if (out.over || record.found.over) {
-                record.found.clear();
-                record.verdict = Judgement.TOO_LONG;
-            } else {
-                record.verdict = Judgement.RIGHT;
-            }
         }
 
-        void compare(Judgement into, Row lower, Row upper) {
+        /** A judgement of two types, in an empty context. */
+        void startTypes(Judgement into, Row lower, Row upper) {
             start(into, false, Judgement.MOST_STEPS);
             left.put(lower.signs, 0, lower.length);
             right.put(upper.signs, 0, upper.length);
             pushBelow(0);
-            runAll();
-            if (record.verdict == Judgement.GOING) {
-                record.verdict = Judgement.RIGHT;
-            }
         }
 
-        private void runAll() {
+        void run() {
             for (int turn = 0; turn < TURNS && record.verdict == Judgement.GOING && todo.size > 0; turn++) {
                 todo.pop();
                 inner = todo.depth + 1;
@@ -953,6 +946,21 @@ public final class RankChecker {
                     record.verdict = Judgement.TOO_LONG;
                 }
             }
+            if (record.verdict == Judgement.GOING) {
+                finish();
+            }
+        }
+
+        private void finish() {
+            if (record.ofTerm) {
+                context.take(out.signs, 0, out.length, record.found);
+                if (out.over || record.found.over) {
+                    record.found.clear();
+                    record.verdict = Judgement.TOO_LONG;
+                    return;
+                }
+            }
+            record.verdict = Judgement.RIGHT;
         }
 
         private void fail() {
@@ -970,7 +978,15 @@ public final class RankChecker {
             if (todo.job <= INFER) {
                 begunAt = byteAt;
             }
-            int rule = ruleOf(todo.job, todo.node);
+            int rule;
+            switch (todo.job) {
+                case CHECK: rule = check(todo.node); break;
+                case INFER: rule = infer(todo.node); break;
+                case APPLY: rule = apply(todo.node); break;
+                case BELOW: rule = compareHeads(); break;
+                case LEFT: rule = solveLeft(todo.b); break;
+                default: rule = solveRight(todo.b); break;
+            }
             record.noteRule(rule);
             if (rule == 0) {
                 fail();
@@ -996,17 +1012,6 @@ public final class RankChecker {
                 into.over = true;
             } else {
                 context.take(todo.held, at + 1, at + 1 + todo.lengthOf(at), into);
-            }
-        }
-
-        private int ruleOf(int job, int node) {
-            switch (job) {
-                case CHECK: return check(node);
-                case INFER: return infer(node);
-                case APPLY: return apply(node);
-                case BELOW: return compareHeads();
-                case LEFT: return solveLeft(todo.b);
-                default: return solveRight(todo.b);
             }
         }
 
@@ -1472,14 +1477,14 @@ public final class RankChecker {
         static final int SECOND = 11;
         static final int SUM = 12;
         static final int LESS = 13;
-        static final int PARTS = 3;
 
         int size;
         final Row types;
         private final int[] ops;
         private final int[] numbers;
         private final int[] ats;
-        private final int[] parts;
+        /** For each node the first one behind all that is within it. */
+        private final int[] pasts;
         private final int[] typesAt;
         /** The node that is taken as if it were NOTED with the asked type, or NONE. */
         private int wrapped;
@@ -1489,7 +1494,7 @@ public final class RankChecker {
             ops = new int[Reader.ROOM];
             numbers = new int[Reader.ROOM];
             ats = new int[Reader.ROOM];
-            parts = new int[Reader.ROOM * PARTS];
+            pasts = new int[Reader.ROOM];
             typesAt = new int[Reader.ROOM];
             types = new Row(Reader.ROOM);
             size = 0;
@@ -1519,6 +1524,7 @@ public final class RankChecker {
             ops[size] = op;
             numbers[size] = 0;
             ats[size] = at;
+            pasts[size] = size + 1;
             typesAt[size] = NONE;
             size++;
             return size - 1;
@@ -1534,9 +1540,10 @@ public final class RankChecker {
             }
         }
 
-        void setPart(int node, int which, int part) {
-            if (has(node) && which >= 0 && which < PARTS) {
-                parts[node * PARTS + which] = part;
+        /** All that was added behind a node is within it. */
+        void close(int node) {
+            if (has(node)) {
+                pasts[node] = size;
             }
         }
 
@@ -1573,7 +1580,11 @@ public final class RankChecker {
             if (isWrapping(node)) {
                 return wrapped;
             }
-            return has(node) && which >= 0 && which < PARTS ? standsFor(parts[node * PARTS + which]) : NONE;
+            int part = node + 1;
+            for (int i = 0; i < which && has(part); i++) {
+                part = pasts[part];
+            }
+            return standsFor(part);
         }
 
         int op(int node) {
@@ -1608,7 +1619,7 @@ public final class RankChecker {
             System.arraycopy(other.ops, 0, ops, 0, size);
             System.arraycopy(other.numbers, 0, numbers, 0, size);
             System.arraycopy(other.ats, 0, ats, 0, size);
-            System.arraycopy(other.parts, 0, parts, 0, size * PARTS);
+            System.arraycopy(other.pasts, 0, pasts, 0, size);
             System.arraycopy(other.typesAt, 0, typesAt, 0, size);
             types.put(other.types.signs, 0, other.types.length);
         }
@@ -1632,7 +1643,7 @@ public final class RankChecker {
         private Term term;
         private Row goal;
 
-        Reader() {
+        Reader(Term into) {
             tape = new int[ROOM];
             bound = new int[LETTERS];
             first = new Row(ROOM);
@@ -1641,7 +1652,7 @@ public final class RankChecker {
             at = 0;
             faultAt = NONE;
             allsRead = 0;
-            term = null;
+            term = into;
             goal = first;
         }
 
@@ -1698,10 +1709,10 @@ public final class RankChecker {
         }
 
         private int nextSign() {
-            while (at < length && here() == ' ') {
+            while (at < length && at < ROOM && tape[at] == ' ') {
                 at++;
             }
-            return here();
+            return at < length && at < ROOM ? tape[at] : NONE;
         }
 
         private void refuse() {
@@ -1746,24 +1757,24 @@ public final class RankChecker {
             return isLetter(sign) ? Term.NAME : NONE;
         }
 
-        /** Reads an expression that is within depth - 1 others: its node, NONE with a fault. */
-        private int readPart(int depth) {
+        /** Reads an expression that is within depth - 1 others. */
+        private void readPart(int depth) {
             int sign = nextSign();
             int op = opOf(sign);
             if (op == NONE || depth > DEEPEST) {
                 refuse();
-                return NONE;
+                return;
             }
             int node = term.add(op, at);
             readHead(node, op, sign);
             for (int i = 0; i < Term.partsOf(op) && faultAt == NONE; i++) {
-                term.setPart(node, i, readPart(depth + 1));
+                readPart(depth + 1);
             }
+            term.close(node);
             if (op == Term.NOTED && faultAt == NONE) {
                 term.beginType(node);
                 readType(depth + 1);
             }
-            return faultAt == NONE ? node : NONE;
         }
 
         private void readHead(int node, int op, int sign) {
@@ -2063,14 +2074,14 @@ public final class RankChecker {
         private int scope;
         private int answer;
 
-        Worker() {
+        Worker(Term term, Shelf from) {
             values = new Values();
             waits = new int[(MOST_PACES + 2) * WIDTH];
             how = GOING;
             paces = 0;
             waiting = 0;
-            latest = null;
-            shelf = null;
+            latest = term;
+            shelf = from;
             node = NONE;
             home = LATEST;
             scope = NONE;
