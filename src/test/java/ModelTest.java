@@ -72,6 +72,7 @@ public final class ModelTest {
             case 1: case 2: e = texts.right(1 + texts.below(6)); break;
             default: e = texts.large();
         }
+        if (!scope.isEmpty() && texts.once(3)) e = texts.heavy(texts.once(2) ? 20 : 290, scope);
         if (!scope.isEmpty() && texts.once(4)) e = "@" + scope.charAt(texts.below(scope.length())) + e;
         if (!scope.isEmpty() && texts.once(8)) e = "," + scope.charAt(texts.below(scope.length())) + e;
         return texts.once(6) ? texts.spoilt(e) : e;

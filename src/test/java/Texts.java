@@ -184,6 +184,22 @@ final class Texts {
         return t.toString();
     }
 
+    /** Much of what is on the shelf, used again and again: its types may be long. */
+    String heavy(int room, String scope) {
+        char a = letter();
+        if (room < 4) return "" + scope.charAt(below(scope.length()));
+        int left = 1 + below(room - 3);
+        switch (below(9)) {
+            case 0: return "/" + a + heavy(room - 2, scope + a);
+            case 1: return "@/" + a + heavy(left, scope + a) + heavy(room - left - 3, scope);
+            case 2: case 3: return "@" + heavy(left, scope) + heavy(room - left - 1, scope);
+            case 4: return "&" + a + heavy(left, scope) + heavy(room - left - 2, scope + a);
+            case 5: return "?T" + heavy(left, scope) + heavy(room - left - 2, scope);
+            case 6: case 7: return "," + heavy(left, scope) + heavy(room - left - 1, scope);
+            default: return (once(2) ? "[" : "]") + heavy(room - 1, scope);
+        }
+    }
+
     // ---- texts with something wrong in them ----
     String spoilt(String s) {
         StringBuilder t = new StringBuilder(s);
