@@ -881,7 +881,7 @@ public final class RankChecker {
         private final Row right;
         /** The type that came out of the latest INFER or APPLY. */
         private final Row out;
-        private Judgement record;
+        private Judgement finding;
         private Context context;
         private Term term;
         private int limit;
@@ -894,7 +894,7 @@ public final class RankChecker {
             left = new Row(Judgement.MOST_SIGNS);
             right = new Row(Judgement.MOST_SIGNS);
             out = new Row(Judgement.MOST_SIGNS);
-            record = into;
+            finding = into;
             context = into.context;
             term = what;
             limit = 0;
@@ -904,7 +904,7 @@ public final class RankChecker {
 
         private void start(Judgement into, boolean aTerm, int most) {
             into.start(aTerm);
-            record = into;
+            finding = into;
             context = into.context;
             limit = most;
             begunAt = NONE;
@@ -934,7 +934,7 @@ public final class RankChecker {
         }
 
         void run() {
-            for (int turn = 0; turn < TURNS && record.verdict == Judgement.GOING && todo.size > 0; turn++) {
+            for (int turn = 0; turn < TURNS && finding.verdict == Judgement.GOING && todo.size > 0; turn++) {
                 todo.pop();
                 inner = todo.depth + 1;
                 if (todo.job <= RIGHT) {
@@ -943,38 +943,38 @@ public final class RankChecker {
                     goOn();
                 }
                 if (todo.full || context.full) {
-                    record.verdict = Judgement.TOO_LONG;
+                    finding.verdict = Judgement.TOO_LONG;
                 }
             }
-            if (record.verdict == Judgement.GOING) {
+            if (finding.verdict == Judgement.GOING) {
                 finish();
             }
         }
 
         private void finish() {
-            if (record.ofTerm) {
-                context.take(out.signs, 0, out.length, record.found);
-                if (out.over || record.found.over) {
-                    record.found.clear();
-                    record.verdict = Judgement.TOO_LONG;
+            if (finding.ofTerm) {
+                context.take(out.signs, 0, out.length, finding.found);
+                if (out.over || finding.found.over) {
+                    finding.found.clear();
+                    finding.verdict = Judgement.TOO_LONG;
                     return;
                 }
             }
-            record.verdict = Judgement.RIGHT;
+            finding.verdict = Judgement.RIGHT;
         }
 
         private void fail() {
-            record.verdict = Judgement.FAILS;
-            record.failedAt = begunAt;
+            finding.verdict = Judgement.FAILS;
+            finding.failedAt = begunAt;
         }
 
         private void begin() {
-            if (record.steps >= limit || context.size > Context.MOST || !takeTypes()) {
-                record.verdict = Judgement.TOO_LONG;
+            if (finding.steps >= limit || context.size > Context.MOST || !takeTypes()) {
+                finding.verdict = Judgement.TOO_LONG;
                 return;
             }
             int byteAt = todo.job <= APPLY ? term.at(todo.node) : NONE;
-            record.note(todo.depth, byteAt, left.length + right.length, todo.job);
+            finding.note(todo.depth, byteAt, left.length + right.length, todo.job);
             if (todo.job <= INFER) {
                 begunAt = byteAt;
             }
@@ -987,7 +987,7 @@ public final class RankChecker {
                 case LEFT: rule = solveLeft(todo.b); break;
                 default: rule = solveRight(todo.b); break;
             }
-            record.noteRule(rule);
+            finding.noteRule(rule);
             if (rule == 0) {
                 fail();
             }
@@ -1377,7 +1377,7 @@ public final class RankChecker {
         private boolean takeOut() {
             context.take(out.signs, 0, out.length, left);
             if (out.over || left.over) {
-                record.verdict = Judgement.TOO_LONG;
+                finding.verdict = Judgement.TOO_LONG;
                 return false;
             }
             return true;
