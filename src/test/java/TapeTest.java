@@ -40,6 +40,12 @@ public final class TapeTest {
         due("feed of none to a full tape", x.feed(0, 0, 0, 0, 0), 300);
         due("feed of the 301st", x.feed(0, 0, 0x4e0000, 0, 0), -1);
         due("it stays full", x.count(0), 300);
+        for (int shift = 0; shift < 32; shift++) {
+            for (int place = 0; place < 5; place++) {
+                int one = 1 << shift;
+                due("feed of bit " + shift, x.feed(place == 0 ? one : 0, place == 1 ? one : 0, place == 2 ? one : 0, place == 3 ? one : 0, place == 4 ? one : 0), -1);
+            }
+        }
         x.end(281);
         due("feed of 20 to 281", x.feed(-1, -1, -1, -1, -1), -1);
         due("it has 281", x.count(0), 281);
