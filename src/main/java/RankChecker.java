@@ -140,7 +140,7 @@ public final class RankChecker {
         switch (what) {
             case 0: return context.kinds[i];
             case 1: return context.numbers[i];
-            case 2: return context.lengthOf(context.types[i]);
+            case 2: return context.lengthOf(i);
             default: return NONE;
         }
     }
@@ -151,7 +151,7 @@ public final class RankChecker {
             return NONE;
         }
         int from = context.types[i] + 1;
-        return teller.told(context.kept, from, from + context.lengthOf(context.types[i]), k);
+        return teller.told(context.kept.signs, from, from + context.lengthOf(i), k);
     }
 
     public int keeps(int name) {
@@ -346,6 +346,35 @@ public final class RankChecker {
             }
         }
 
+        /** A part of another row comes behind all, its length ahead of it: where. NONE: that row is over, or this one gets so. */
+        int keep(Row row, int from, int to) {
+            if (row.over) {
+                return NONE;
+            }
+            int many = to - from;
+            if (from < 0 || many < 0 || to > row.length || length + 1 + many > signs.length) {
+                over = true;
+                return NONE;
+            }
+            int place = length;
+            signs[place] = many;
+            System.arraycopy(row.signs, from, signs, place + 1, many);
+            length += 1 + many;
+            return place;
+        }
+
+        /** As a type of one sign. */
+        int keepSign(int sign) {
+            add(1);
+            add(sign);
+            return over ? NONE : length - 2;
+        }
+
+        /** How long the type that is kept at a place is. */
+        int keptLength(int place) {
+            return place >= 0 && place < length ? signs[place] : 0;
+        }
+
         int at(int i) {
             return i >= 0 && i < length ? signs[i] : NONE;
         }
@@ -423,13 +452,13 @@ public final class RankChecker {
         final int[] kinds;
         final int[] numbers;
         final int[] types;
-        final int[] kept;
+        /** What types are places of. */
+        final Row kept;
         int size;
         int guesses;
         int constants;
         /** No room was left; a judgement that meets this is too long. */
         boolean full;
-        private int used;
         private final int[] resumes;
         private final int[] stops;
 
@@ -437,13 +466,12 @@ public final class RankChecker {
             kinds = new int[ROOM];
             numbers = new int[ROOM];
             types = new int[ROOM];
-            kept = new int[TYPES_ROOM];
+            kept = new Row(TYPES_ROOM);
             resumes = new int[ROOM];
             stops = new int[ROOM];
             size = 0;
             guesses = 0;
             constants = 0;
-            used = 0;
             full = false;
         }
 
@@ -451,50 +479,12 @@ public final class RankChecker {
             size = 0;
             guesses = 0;
             constants = 0;
-            used = 0;
             full = false;
+            kept.clear();
         }
 
-        int lengthOf(int at) {
-            return at >= 0 && at < kept.length ? kept[at] : 0;
-        }
-
-        private int keep(Row row, int from, int to) {
-            if (from < 0 || to > row.length || from > to || used + 1 + to - from > kept.length) {
-                full = true;
-                return NONE;
-            }
-            int at = used;
-            kept[at] = to - from;
-            System.arraycopy(row.signs, from, kept, at + 1, to - from);
-            used += 1 + to - from;
-            return at;
-        }
-
-        private int keepSign(int sign) {
-            if (used + 2 > kept.length) {
-                full = true;
-                return NONE;
-            }
-            int at = used;
-            kept[at] = 1;
-            kept[at + 1] = sign;
-            used += 2;
-            return at;
-        }
-
-        private int keepTwo(int kind, int first, int second) {
-            if (used + 4 > kept.length) {
-                full = true;
-                return NONE;
-            }
-            int at = used;
-            kept[at] = 3;
-            kept[at + 1] = Row.sign(kind, 0);
-            kept[at + 2] = Row.sign(Row.GUESS, first);
-            kept[at + 3] = Row.sign(Row.GUESS, second);
-            used += 4;
-            return at;
+        int lengthOf(int i) {
+            return i >= 0 && i < size ? kept.keptLength(types[i]) : 0;
         }
 
         private void put(int at, int kind, int number, int held) {
@@ -526,17 +516,16 @@ public final class RankChecker {
         }
 
         /** A mark has the number of the guess that is made next. */
-        int addMarkedGuess() {
+        void addMark() {
             put(size, MARK, guesses, NONE);
-            return addGuess();
         }
 
         void addName(int name, Row row, int from, int to) {
-            put(size, NAME, name, keep(row, from, to));
+            put(size, NAME, name, kept.keep(row, from, to));
         }
 
         void addGuessedName(int name, int guess) {
-            put(size, NAME, name, keepSign(Row.sign(Row.GUESS, guess)));
+            put(size, NAME, name, kept.keepSign(Row.sign(Row.GUESS, guess)));
         }
 
         /** The latest entry of a kind with a number. */
@@ -601,7 +590,7 @@ public final class RankChecker {
             int place = openPlace(guess);
             if (place != NONE) {
                 kinds[place] = SOLVED;
-                types[place] = keep(row, 0, row.length);
+                types[place] = kept.keep(row, 0, row.length);
             }
         }
 
@@ -609,7 +598,7 @@ public final class RankChecker {
             int place = openPlace(guess);
             if (place != NONE) {
                 kinds[place] = SOLVED;
-                types[place] = keepSign(Row.sign(Row.GUESS, other));
+                types[place] = kept.keepSign(Row.sign(Row.GUESS, other));
             }
         }
 
@@ -622,7 +611,11 @@ public final class RankChecker {
                 return latter;
             }
             kinds[place] = SOLVED;
-            types[place] = keepTwo(kind, latter + 1, latter);
+            types[place] = kept.length;
+            kept.add(3);
+            kept.add(kind);
+            kept.add(Row.sign(Row.GUESS, latter + 1));
+            kept.add(Row.sign(Row.GUESS, latter));
             put(place, OPEN, latter + 1, NONE);
             put(place, OPEN, latter, NONE);
             return latter;
@@ -651,7 +644,7 @@ public final class RankChecker {
                     depth--;
                     i = resumes[depth];
                     stop = stops[depth];
-                    source = depth == 0 ? signs : kept;
+                    source = depth == 0 ? signs : kept.signs;
                     continue;
                 }
                 int sign = i >= 0 && i < source.length ? source[i] : NONE;
@@ -665,9 +658,9 @@ public final class RankChecker {
                     resumes[depth] = i;
                     stops[depth] = stop;
                     depth++;
-                    source = kept;
+                    source = kept.signs;
                     i = solved + 1;
-                    stop = i + lengthOf(solved);
+                    stop = i + kept.keptLength(solved);
                 }
             }
             into.over = into.over || i < stop || depth > 0;
@@ -688,63 +681,26 @@ public final class RankChecker {
         int b;
         boolean full;
         int size;
-        final int[] held;
+        /** The types that items need. */
+        final Row held;
         private final int[] items;
-        private int used;
 
         Todo() {
             items = new int[ITEMS * WIDTH];
-            held = new int[TYPES_ROOM];
+            held = new Row(TYPES_ROOM);
             job = 0;
             depth = 0;
             node = NONE;
             a = NONE;
             b = NONE;
             size = 0;
-            used = 0;
             full = false;
         }
 
         void clear() {
             size = 0;
-            used = 0;
             full = false;
-        }
-
-        /** Where a part of a row is held; NONE, if the row is over. */
-        int hold(Row row, int from, int to) {
-            if (row.over) {
-                return NONE;
-            }
-            if (from < 0 || to > row.length || from > to || used + 1 + to - from > held.length) {
-                full = true;
-                return NONE;
-            }
-            int at = used;
-            held[at] = to - from;
-            System.arraycopy(row.signs, from, held, at + 1, to - from);
-            used += 1 + to - from;
-            return at;
-        }
-
-        int holdAll(Row row) {
-            return hold(row, 0, row.length);
-        }
-
-        int holdSign(int sign) {
-            if (used + 2 > held.length) {
-                full = true;
-                return NONE;
-            }
-            int at = used;
-            held[at] = 1;
-            held[at + 1] = sign;
-            used += 2;
-            return at;
-        }
-
-        int lengthOf(int at) {
-            return at >= 0 && at < held.length ? held[at] : 0;
+            held.clear();
         }
 
         /** What was held for the item, just ahead of this call, is let go when the one below it is on top. */
@@ -759,7 +715,7 @@ public final class RankChecker {
             items[at + 2] = itsNode;
             items[at + 3] = itsA;
             items[at + 4] = itsB;
-            items[at + 5] = used;
+            items[at + 5] = held.length;
             size++;
         }
 
@@ -778,7 +734,7 @@ public final class RankChecker {
 
         /** What the popped item held is no longer needed. */
         void letGo() {
-            used = size == 0 ? 0 : items[size * WIDTH - 1];
+            held.length = size == 0 ? 0 : items[size * WIDTH - 1];
         }
     }
 
@@ -942,7 +898,7 @@ public final class RankChecker {
                 } else {
                     goOn();
                 }
-                if (todo.full || context.full) {
+                if (todo.full || todo.held.over || context.full || context.kept.over) {
                     finding.verdict = Judgement.TOO_LONG;
                 }
             }
@@ -984,8 +940,7 @@ public final class RankChecker {
                 case INFER: rule = infer(todo.node); break;
                 case APPLY: rule = apply(todo.node); break;
                 case BELOW: rule = compareHeads(); break;
-                case LEFT: rule = solveLeft(todo.b); break;
-                default: rule = solveRight(todo.b); break;
+                default: rule = solve(todo.job, todo.b); break;
             }
             finding.noteRule(rule);
             if (rule == 0) {
@@ -1011,11 +966,15 @@ public final class RankChecker {
             if (at == NONE) {
                 into.over = true;
             } else {
-                context.take(todo.held, at + 1, at + 1 + todo.lengthOf(at), into);
+                context.take(todo.held.signs, at + 1, at + 1 + todo.held.keptLength(at), into);
             }
         }
 
         /* ---- items to be done later: the one that is pushed last is the next ---- */
+
+        private int hold(Row row) {
+            return todo.held.keep(row, 0, row.length);
+        }
 
         private void pushCheck(int node, int held) {
             todo.push(CHECK, inner, node, held, NONE);
@@ -1026,12 +985,12 @@ public final class RankChecker {
         }
 
         private void pushBelow(int depth) {
-            int lower = todo.holdAll(left);
-            todo.push(BELOW, depth, NONE, lower, todo.holdAll(right));
+            int lower = hold(left);
+            todo.push(BELOW, depth, NONE, lower, hold(right));
         }
 
         private void pushSolve(int job, int from, int to, int guess) {
-            todo.push(job, inner, NONE, todo.hold(left, from, to), guess);
+            todo.push(job, inner, NONE, todo.held.keep(left, from, to), guess);
         }
 
         private void pushCut(int kind, int number) {
@@ -1059,10 +1018,8 @@ public final class RankChecker {
         }
 
         private int checkAll(int node) {
-            int constant = context.addConstant();
-            left.open(Row.sign(Row.CONSTANT, constant));
-            pushCut(Context.CONSTANT, constant);
-            pushCheck(node, todo.holdAll(left));
+            openConstant(left);
+            pushCheck(node, hold(left));
             return 1;
         }
 
@@ -1070,34 +1027,34 @@ public final class RankChecker {
             int middle = left.past(1);
             context.addName(term.number(node), left, 1, middle);
             pushCut(Context.NAME, term.number(node));
-            pushCheck(term.part(node, 0), todo.hold(left, middle, left.length));
+            pushCheck(term.part(node, 0), todo.held.keep(left, middle, left.length));
             return 2;
         }
 
         private int checkPair(int node) {
             int middle = left.past(1);
-            pushCheck(term.part(node, 1), todo.hold(left, middle, left.length));
-            pushCheck(term.part(node, 0), todo.hold(left, 1, middle));
+            pushCheck(term.part(node, 1), todo.held.keep(left, middle, left.length));
+            pushCheck(term.part(node, 0), todo.held.keep(left, 1, middle));
             return 3;
         }
 
         private int checkIf(int node) {
-            pushCheck(term.part(node, 2), todo.holdAll(left));
-            pushCheck(term.part(node, 1), todo.holdAll(left));
-            pushCheck(term.part(node, 0), todo.holdSign(Row.TRUTHS));
+            pushCheck(term.part(node, 2), hold(left));
+            pushCheck(term.part(node, 1), hold(left));
+            pushCheck(term.part(node, 0), todo.held.keepSign(Row.TRUTHS));
             return 4;
         }
 
         private int checkLet(int node) {
             pushCut(Context.NAME, term.number(node));
-            pushCheck(term.part(node, 1), todo.holdAll(left));
+            pushCheck(term.part(node, 1), hold(left));
             pushGoOn(OUT_BIND, node, NONE);
             pushInfer(term.part(node, 0));
             return 5;
         }
 
         private int checkInferred(int node) {
-            pushGoOn(OUT_BELOW, node, todo.holdAll(left));
+            pushGoOn(OUT_BELOW, node, hold(left));
             pushInfer(node);
             return 6;
         }
@@ -1120,7 +1077,7 @@ public final class RankChecker {
                 case Term.IF:
                     pushGoOn(OUT_ELSE, term.part(node, 2), NONE);
                     pushInfer(term.part(node, 1));
-                    pushCheck(term.part(node, 0), todo.holdSign(Row.TRUTHS));
+                    pushCheck(term.part(node, 0), todo.held.keepSign(Row.TRUTHS));
                     return 13;
                 case Term.PAIR:
                     pushGoOn(OUT_SECOND, term.part(node, 1), NONE);
@@ -1143,7 +1100,7 @@ public final class RankChecker {
                 return 0;
             }
             out.clear();
-            out.put(context.kept, at + 1, at + 1 + context.lengthOf(at));
+            out.put(context.kept.signs, at + 1, at + 1 + context.kept.keptLength(at));
             return 7;
         }
 
@@ -1156,8 +1113,8 @@ public final class RankChecker {
         private int inferNoted(int node) {
             left.clear();
             term.putType(node, left);
-            pushGoOn(GIVE, node, todo.holdAll(left));
-            pushCheck(term.part(node, 0), todo.holdAll(left));
+            pushGoOn(GIVE, node, hold(left));
+            pushCheck(term.part(node, 0), hold(left));
             return 9;
         }
 
@@ -1167,7 +1124,7 @@ public final class RankChecker {
             context.addGuessedName(term.number(node), from);
             pushGoOn(GIVE_ARROW, node, from);
             pushCut(Context.NAME, term.number(node));
-            pushCheck(term.part(node, 0), todo.holdSign(Row.sign(Row.GUESS, to)));
+            pushCheck(term.part(node, 0), todo.held.keepSign(Row.sign(Row.GUESS, to)));
             return 10;
         }
 
@@ -1180,9 +1137,9 @@ public final class RankChecker {
         }
 
         private int inferOfNumbers(int node, int sign) {
-            pushGoOn(GIVE, node, todo.holdSign(sign));
-            pushCheck(term.part(node, 1), todo.holdSign(Row.NUMBERS));
-            pushCheck(term.part(node, 0), todo.holdSign(Row.NUMBERS));
+            pushGoOn(GIVE, node, todo.held.keepSign(sign));
+            pushCheck(term.part(node, 1), todo.held.keepSign(Row.NUMBERS));
+            pushCheck(term.part(node, 0), todo.held.keepSign(Row.NUMBERS));
             return 16;
         }
 
@@ -1192,19 +1149,19 @@ public final class RankChecker {
             int head = left.kindAt(0);
             if (head == Row.ALL) {
                 left.open(Row.sign(Row.GUESS, context.addGuess()));
-                todo.push(APPLY, inner, node, todo.holdAll(left), NONE);
+                todo.push(APPLY, inner, node, hold(left), NONE);
                 return 17;
             }
             if (openGuess(left) != NONE) {
                 int to = context.split(openGuess(left), Row.ARROW);
-                pushGoOn(GIVE, node, todo.holdSign(Row.sign(Row.GUESS, to)));
-                pushCheck(node, todo.holdSign(Row.sign(Row.GUESS, to + 1)));
+                pushGoOn(GIVE, node, todo.held.keepSign(Row.sign(Row.GUESS, to)));
+                pushCheck(node, todo.held.keepSign(Row.sign(Row.GUESS, to + 1)));
                 return 18;
             }
             if (head == Row.ARROW) {
                 int middle = left.past(1);
-                pushGoOn(GIVE, node, todo.hold(left, middle, left.length));
-                pushCheck(node, todo.hold(left, 1, middle));
+                pushGoOn(GIVE, node, todo.held.keep(left, middle, left.length));
+                pushCheck(node, todo.held.keep(left, 1, middle));
                 return 19;
             }
             return 0;
@@ -1223,16 +1180,12 @@ public final class RankChecker {
 
         private int compareHeads() {
             if (right.kindAt(0) == Row.ALL) {
-                int constant = context.addConstant();
-                right.open(Row.sign(Row.CONSTANT, constant));
-                pushCut(Context.CONSTANT, constant);
+                openConstant(right);
                 pushBelow(inner);
                 return 20;
             }
             if (left.kindAt(0) == Row.ALL) {
-                int guess = context.addMarkedGuess();
-                left.open(Row.sign(Row.GUESS, guess));
-                pushCut(Context.MARK, guess);
+                openMarked(left);
                 pushBelow(inner);
                 return 21;
             }
@@ -1241,12 +1194,12 @@ public final class RankChecker {
             }
             int guess = openGuess(left);
             if (guess != NONE && !right.has(left.at(0))) {
-                todo.push(LEFT, inner, NONE, todo.holdAll(right), guess);
+                todo.push(LEFT, inner, NONE, hold(right), guess);
                 return 23;
             }
             guess = openGuess(right);
             if (guess != NONE && !left.has(right.at(0))) {
-                todo.push(RIGHT, inner, NONE, todo.holdAll(left), guess);
+                todo.push(RIGHT, inner, NONE, hold(left), guess);
                 return 24;
             }
             return compareParts();
@@ -1259,10 +1212,10 @@ public final class RankChecker {
             }
             int middle = left.past(1);
             int otherMiddle = right.past(1);
-            int lower = todo.hold(left, middle, left.length);
-            todo.push(BELOW, inner, NONE, lower, todo.hold(right, otherMiddle, right.length));
-            int mine = todo.hold(left, 1, middle);
-            int others = todo.hold(right, 1, otherMiddle);
+            int lower = todo.held.keep(left, middle, left.length);
+            todo.push(BELOW, inner, NONE, lower, todo.held.keep(right, otherMiddle, right.length));
+            int mine = todo.held.keep(left, 1, middle);
+            int others = todo.held.keep(right, 1, otherMiddle);
             if (head == Row.PAIR) {
                 todo.push(BELOW, inner, NONE, mine, others);
                 return 26;
@@ -1273,84 +1226,66 @@ public final class RankChecker {
 
         /* ---- LEFT and RIGHT: left is the type ---- */
 
-        /** 0: what is told first, alike of both, solves it; 1: as the other one; NONE: neither. */
-        private int solveAtOnce(int guess, int place) {
+        /** The same rules of both but for their numbers, for what stands on the other side of an arrow, and for an ALL. */
+        private int solve(int job, int guess) {
+            int place = context.openPlace(guess);
+            if (place == NONE) {
+                return 0;
+            }
+            int rule = job == LEFT ? 27 : 32;
             if (left.alls() == 0 && context.allAhead(left, place)) {
                 context.solve(guess, left);
-                return 0;
+                return rule;
             }
             int other = openGuess(left);
             if (other != NONE && context.openPlace(other) > place) {
                 context.solveAs(other, guess);
-                return 1;
+                return rule + 1;
             }
-            return NONE;
+            switch (left.kindAt(0)) {
+                case Row.ARROW:
+                    solveParts(job, job == LEFT ? RIGHT : LEFT, context.split(guess, Row.ARROW));
+                    return rule + 2;
+                case Row.PAIR:
+                    solveParts(job, job, context.split(guess, Row.PAIR));
+                    return rule + 3;
+                case Row.ALL:
+                    solveAll(job, guess);
+                    return rule + 4;
+                default:
+                    return 0;
+            }
         }
 
-        private int solveLeft(int guess) {
-            int place = context.openPlace(guess);
-            if (place == NONE) {
-                return 0;
-            }
-            int solved = solveAtOnce(guess, place);
-            if (solved != NONE) {
-                return 27 + solved;
-            }
-            int head = left.kindAt(0);
+        /** The former part with the guess that was made for it, then the latter one. */
+        private void solveParts(int job, int formerJob, int latter) {
             int middle = left.past(1);
-            if (head == Row.ARROW) {
-                int to = context.split(guess, Row.ARROW);
-                pushSolve(LEFT, middle, left.length, to);
-                pushSolve(RIGHT, 1, middle, to + 1);
-                return 29;
-            }
-            if (head == Row.PAIR) {
-                int second = context.split(guess, Row.PAIR);
-                pushSolve(LEFT, middle, left.length, second);
-                pushSolve(LEFT, 1, middle, second + 1);
-                return 30;
-            }
-            if (head == Row.ALL) {
-                int constant = context.addConstant();
-                left.open(Row.sign(Row.CONSTANT, constant));
-                pushCut(Context.CONSTANT, constant);
-                pushSolve(LEFT, 0, left.length, guess);
-                return 31;
-            }
-            return 0;
+            pushSolve(job, middle, left.length, latter);
+            pushSolve(formerJob, 1, middle, latter + 1);
         }
 
-        private int solveRight(int guess) {
-            int place = context.openPlace(guess);
-            if (place == NONE) {
-                return 0;
+        private void solveAll(int job, int guess) {
+            if (job == LEFT) {
+                openConstant(left);
+            } else {
+                openMarked(left);
             }
-            int solved = solveAtOnce(guess, place);
-            if (solved != NONE) {
-                return 32 + solved;
-            }
-            int head = left.kindAt(0);
-            int middle = left.past(1);
-            if (head == Row.ARROW) {
-                int to = context.split(guess, Row.ARROW);
-                pushSolve(RIGHT, middle, left.length, to);
-                pushSolve(LEFT, 1, middle, to + 1);
-                return 34;
-            }
-            if (head == Row.PAIR) {
-                int second = context.split(guess, Row.PAIR);
-                pushSolve(RIGHT, middle, left.length, second);
-                pushSolve(RIGHT, 1, middle, second + 1);
-                return 35;
-            }
-            if (head == Row.ALL) {
-                int made = context.addMarkedGuess();
-                left.open(Row.sign(Row.GUESS, made));
-                pushCut(Context.MARK, made);
-                pushSolve(RIGHT, 0, left.length, guess);
-                return 36;
-            }
-            return 0;
+            pushSolve(job, 0, left.length, guess);
+        }
+
+        /** A constant comes for the variable of an ALL, until what is pushed behind this is done. */
+        private void openConstant(Row row) {
+            int constant = context.addConstant();
+            row.open(Row.sign(Row.CONSTANT, constant));
+            pushCut(Context.CONSTANT, constant);
+        }
+
+        /** A guess behind a mark comes for it likewise. */
+        private void openMarked(Row row) {
+            context.addMark();
+            int guess = context.addGuess();
+            row.open(Row.sign(Row.GUESS, guess));
+            pushCut(Context.MARK, guess);
         }
 
         /* ---- what goes on behind the steps of a rule ---- */
@@ -1364,7 +1299,7 @@ public final class RankChecker {
                 case GIVE_ARROW: giveArrow(todo.a); break;
                 case OUT_BELOW: outBelow(todo.a); break;
                 case OUT_APPLY:
-                    todo.push(APPLY, inner, todo.node, todo.holdAll(out), NONE);
+                    todo.push(APPLY, inner, todo.node, hold(out), NONE);
                     break;
                 case OUT_ELSE: outElse(todo.node); break;
                 case OUT_SECOND: outSecond(todo.node); break;
@@ -1399,7 +1334,7 @@ public final class RankChecker {
             if (at == NONE) {
                 into.over = true;
             } else {
-                into.put(todo.held, at + 1, at + 1 + todo.lengthOf(at));
+                into.put(todo.held.signs, at + 1, at + 1 + todo.held.keptLength(at));
             }
         }
 
@@ -1414,17 +1349,17 @@ public final class RankChecker {
             right.clear();
             putHeld(at, right);
             todo.letGo();
-            int lower = todo.holdAll(out);
-            todo.push(BELOW, inner, NONE, lower, todo.holdAll(right));
+            int lower = hold(out);
+            todo.push(BELOW, inner, NONE, lower, hold(right));
         }
 
         private void outElse(int node) {
-            pushGoOn(GIVE, node, todo.holdAll(out));
-            pushCheck(node, todo.holdAll(out));
+            pushGoOn(GIVE, node, hold(out));
+            pushCheck(node, hold(out));
         }
 
         private void outSecond(int node) {
-            pushGoOn(OUT_PAIR, node, todo.holdAll(out));
+            pushGoOn(OUT_PAIR, node, hold(out));
             pushInfer(node);
         }
 
