@@ -443,9 +443,9 @@ public final class RankChecker {
         static final int SOLVED = 3;
         static final int MARK = 4;
         static final int MOST = 120;
-        /** What one step may add without another one begun stays below the rest of this room. */
+        /** Twice what a type of 150 signs may bring in, with no step begun behind it, fits beside the 120. */
         private static final int ROOM = 480;
-        /** A step that keeps a long type comes with another one that keeps none: a few signs more than half of them all. */
+        /** Of two steps one at most keeps a long type, as none names, binds or solves one without another step; then splits, and the shelf. */
         private static final int TYPES_ROOM = (Judgement.MOST_STEPS / 2 + 12) * (Judgement.MOST_SIGNS + 4) + 8 * Shelf.SIGNS;
         private static final int TURNS = 1000000;
 
