@@ -7,6 +7,8 @@ final class Calls {
     final RankChecker x = new RankChecker();
 
     static void promise(int number) { promise = "promise " + number + ": "; }
+    /** What is tested from here on, in the words of the document. */
+    static void sentence(String where, String words) { promise = where + ", '" + words + "': "; }
 
     static void due(String what, long got, long want) {
         if (got != want) {
@@ -79,6 +81,22 @@ final class Calls {
             for (int k = 0; k < x.entryType(i, -1); k++) t.append((char) x.entryType(i, k));
             String[] all = {"c" + n, (char) ('a' + n) + ":" + t, "^" + n, "^" + n + "=" + t, "m" + n};
             s.append(i == 0 ? "" : " ").append(all[x.entry(i, 0)]);
+        }
+        return s.toString();
+    }
+    /** All that can be asked without a change: two objects that answer this alike are in the same state. */
+    String seen() {
+        StringBuilder s = new StringBuilder();
+        for (int what = 0; what <= 6; what++) s.append(x.count(what)).append(' ');
+        for (int what = 0; what <= 2; what++) s.append(x.fault(what)).append(' ');
+        for (int what = 0; what <= 8; what++) s.append(x.judged(what)).append(' ');
+        for (int what = 0; what <= 3; what++) s.append(x.worked(what)).append(' ');
+        for (int rule = 1; rule <= 36; rule++) s.append(x.byRule(rule)).append(' ');
+        for (int what = 0; what <= 5; what++) s.append("\n").append(steps(what));
+        s.append("\n").append(type()).append("\n").append(context());
+        for (int i = 0; i < x.count(1); i++) {
+            s.append("\n").append(shelfType(i));
+            for (int what = 0; what <= 4; what++) s.append(' ').append(x.shelf(i, what));
         }
         return s.toString();
     }
