@@ -707,6 +707,29 @@ public final class EdgeCallsTest {
         }
     }
 
+    /** What one call leaves behind in rows that are used again must not be seen by the next one. */
+    private static void rowsUsedAgain() {
+        Calls.sentence("What it is", "at most 512 calls after it has been made");
+        Calls c = new Calls();
+        for (int i = 0; i < 8; i++) c.keeps(Calls.tree(",", 36, "/x1"), (char) ('a' + i));
+        for (int i = 0; i < 100; i++) {
+            due("infers() of the " + i + "-th, with long types on the shelf", c.infers("1"), 0);
+            due("shelfBelow() of the " + i + "-th", c.x.shelfBelow(0, 7), 2);
+        }
+        c = new Calls();
+        c.keeps("/xx", 'i');
+        for (int i = 0; i < 200; i++) due("shelfBelow() of the " + i + "-th", c.x.shelfBelow(0, 0), 0);
+        c.infers("&a1&b2&c3&d4@/x@/y@/z+a+b+c+d+x+yz 5 6 7");
+        for (int i = 0; i < 200; i++) due("worked(3) of the " + i + "-th", c.x.worked(3), 28);
+        Calls.sentence("promise 11", "TOLD as it stands");
+        c = new Calls();
+        c.infers("/f@f1");
+        due("open GUESSES in its TYPE", c.x.judged(7), 1);
+        due("the first that is come to", c.x.entryType(2, 2), '0');
+        due("open GUESSES in its TYPE", c.x.judged(7), 1);
+        due("the second that is come to", c.x.entryType(2, 4), '1');
+    }
+
     public static void main(String[] args) {
         newObject();
         feeds();
@@ -734,6 +757,7 @@ public final class EdgeCallsTest {
         counts();
         rules();
         manyCalls();
+        rowsUsedAgain();
         Calls.ends("EdgeCallsTest");
     }
 }

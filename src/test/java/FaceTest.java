@@ -1,3 +1,4 @@
+import java.lang.reflect.Array;
 import java.lang.reflect.Constructor;
 import java.lang.reflect.Field;
 import java.lang.reflect.Method;
@@ -5,7 +6,10 @@ import java.lang.reflect.Modifier;
 import java.nio.file.Files;
 import java.nio.file.Path;
 import java.util.ArrayList;
+import java.util.Collections;
+import java.util.IdentityHashMap;
 import java.util.List;
+import java.util.Set;
 import java.util.TreeSet;
 import java.util.regex.Matcher;
 import java.util.regex.Pattern;
@@ -74,6 +78,46 @@ public final class FaceTest {
         Calls.due("imports", imports.toString(), "[import java.util.NoSuchElementException;]");
     }
 
+    /** All calls of a run live in one room: an object takes a small part of it when it is made, and no call takes more. */
+    private static void room() throws Exception {
+        long[] made = sizes(new RankChecker());
+        Calls.due("objects and arrays of a new object are few", made[0] < 200 ? 1 : 0, 1);
+        Calls.due("fields and elements of a new object are few", made[1] < 150000 ? 1 : 0, 1);
+        Calls c = new Calls();
+        for (int i = 0; i < 8; i++) c.keeps(Calls.tree(",", 36, "/x1"), (char) ('a' + i));
+        c.infers(Calls.tree("+", 50, "1 "));
+        c.asks("N");
+        c.x.shelfBelow(0, 7);
+        c.x.worked(0);
+        c.below("!a>aa>NN");
+        long[] used = sizes(c.x);
+        Calls.due("objects of a used one", used[0], made[0]);
+        Calls.due("fields and elements of a used one", used[1], made[1]);
+    }
+
+    /** How many objects and arrays can be come to, and how many fields and elements they have. */
+    private static long[] sizes(Object from) throws Exception {
+        Set<Object> seen = Collections.newSetFromMap(new IdentityHashMap<>());
+        List<Object> due = new ArrayList<>(List.of(from));
+        long parts = 0;
+        while (!due.isEmpty()) {
+            Object one = due.remove(due.size() - 1);
+            if (one == null || !seen.add(one)) continue;
+            if (one.getClass().isArray()) {
+                parts += Array.getLength(one);
+                if (one instanceof Object[] all) for (Object o : all) due.add(o);
+                continue;
+            }
+            for (Field f : one.getClass().getDeclaredFields()) {
+                if (Modifier.isStatic(f.getModifiers())) continue;
+                parts++;
+                f.setAccessible(true);
+                if (!f.getType().isPrimitive()) due.add(f.get(one));
+            }
+        }
+        return new long[] {seen.size(), parts};
+    }
+
     /** Any int in any place, on objects in any state: nothing but what the document tells is thrown. */
     private static void anyInts() {
         int[] ints = {Integer.MIN_VALUE, -100, -3, -2, -1, 0, 1, 2, 3, 4, 5, 6, 7, 8, 9, 25, 26, 36, 37, 149, 150, 299, 300, 301, 512, 0x2f782078, Integer.MAX_VALUE};
@@ -108,6 +152,7 @@ public final class FaceTest {
     public static void main(String[] args) throws Exception {
         face();
         words();
+        room();
         anyInts();
         Calls.ends("FaceTest");
     }
