@@ -589,6 +589,58 @@ public final class EdgeCallsTest {
         due("more than 500 were needed", last > 500 ? 1 : 0, 1);
     }
 
+    /** A function whose argument is used n times, each time as a long type unless it is noted to be of all types; then a tail of so many steps. */
+    private static String usesOften(int n, String notedAs, int tail) {
+        String behind = tail % 2 == 0 ? "[" + Calls.times(",1 ", tail / 2 - 1) + "1" : Calls.times(",1 ", tail / 2) + "1";
+        String function = "/f" + Calls.tree("+", n, "[,1?Tpf");
+        return "&g" + (notedAs.isEmpty() ? function : ":" + function + notedAs) + " " + behind;
+    }
+    private static Calls withLong() {
+        Calls c = new Calls();
+        c.keeps(Calls.tree(",", 60, "T"), 'p');
+        return c;
+    }
+    private static void asksBehindTooLong() {
+        Calls.sentence("promise 17", "makes all of it RIGHT; all these together would have a 501st STEP");
+        for (int tail : new int[] {1, 4, 19, 20, 21, 22, 37}) {
+            Calls noted = withLong();
+            due("infers() of what is noted", noted.infers(usesOften(10, ">!aaN", tail)), 0);
+            due("its steps", noted.x.judged(1), 180 + tail);
+            Calls c = withLong();
+            due("infers() of what is not", c.infers(usesOften(10, "", tail)), 2);
+            // the whole, noted, has 300 steps and is too long; what is noted behind it has 200 left
+            due("asks() with " + tail + " behind it", c.asks(">!aaN"), 180 + tail <= 200 ? 2 : -1);
+            due("the judgement stays", c.x.judged(0), 2);
+        }
+        Calls.sentence("promise 17", "makes all of it RIGHT, though it would with more than 300 STEPS");
+        Calls c = new Calls();
+        for (int sum = 48; sum <= 50; sum++) {
+            Calls noted = new Calls();
+            String text = Calls.tree("+", sum, "1 ");
+            int verdict = noted.infers(":[,1 " + text + "N");
+            c.infers("[,1 " + text);
+            due("asks() of " + sum + " in a sum", c.asks("N"), verdict == 0 ? 0 : -1);
+        }
+        due("the last of these was too long", c.infers(":[,1 " + Calls.tree("+", 50, "1 ") + "N"), 2);
+        due("the first was not", c.infers(":[,1 " + Calls.tree("+", 48, "1 ") + "N"), 0);
+    }
+    private static void asksWithin() {
+        Calls.sentence("promise 17", "were it NOTED there with that TYPE; Terms, 'At most 20 within one another'");
+        // the innermost is the 20th: a text with a note round it would have a 21st, but it is asked for all the same
+        Calls c = new Calls();
+        c.keeps(Calls.times(",", 19) + "T" + Calls.times("1 ", 19), 'x');
+        due("infers() of 20 within one another", c.infers(Calls.times("[", 19) + "x"), 0);
+        due("asks() for the whole", c.asks("B"), 0);
+        due("asks() for one of the inner ones", c.asks(",,,BNNN"), 3);
+        due("a text with that note has a fault", c.fault(":" + Calls.times("[", 19) + "xB", 0), 20);
+        Calls.sentence("promise 17", "an EXPRESSION of that of the latest infers()");
+        c = new Calls();
+        c.infers(":/x:xN>NN");
+        due("asks() for what is noted already", c.asks(">NN"), 0);
+        due("asks() for what is in a note", c.asks("N"), 3);
+        due("asks() for another type", c.asks("B"), -1);
+    }
+
     private static void tells() {
         Calls.sentence("promise 18", "NONE: a FAULT (the TAPE stays)");
         for (int what = 0; what <= 3; what++) {
@@ -752,6 +804,8 @@ public final class EdgeCallsTest {
         ofOthers();
         asks();
         asksWithManySteps();
+        asksBehindTooLong();
+        asksWithin();
         tells();
         shelfBelow();
         counts();

@@ -383,6 +383,17 @@ public final class EdgeTermsTest {
             due(n + " CONSTANTS", got.toString().replace(",", ""), want.toString());
         }
     }
+    /** Both in one type: each kind is counted on its own. */
+    private static void toldOfBoth() {
+        Calls.sentence("3", "GUESSES ^ and a digit, as they are come to, CONSTANTS # and likewise");
+        Calls c = new Calls();
+        c.infers(":/x&p,x/yyz!a>aN");
+        due("one of each", c.context(), "c0 x:#0 ^0 ^1=^0 p:,#0>^0^0");
+        c.infers(":/x/y&p,y,/uu,x/vvz!a!b>a>bN");
+        due("two of each, the later constant first", c.context(), "c0 c1 x:#0 y:#0 ^0 ^1=^0 ^2 ^3=^0 p:,#0,>^0^0,#1>^1^1");
+        c.infers(":/x&p:/y/zy!c!d>c>dc&q,x,p/uuz!a>aN");
+        due("with ALLS, which are named on their own", c.context(), "c0 x:#0 p:!a!b>a>ba ^0 ^1=^0 q:,#0,!a!b>a>ba>^0^0");
+    }
     private static String pairs(String names) {
         int half = names.length() / 2;
         return names.length() == 1 ? names : "," + pairs(names.substring(half)) + pairs(names.substring(0, half));
@@ -470,6 +481,7 @@ public final class EdgeTermsTest {
         tooManySteps();
         tooManyEntries();
         toldAgain();
+        toldOfBoth();
         numberedAnew();
         firstOutermost();
         goRound();
