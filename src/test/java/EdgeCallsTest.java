@@ -355,6 +355,14 @@ public final class EdgeCallsTest {
         for (int k = -2; k <= 1; k++) due("entryType of a MARK", c.x.entryType(0, k), -1);
         c.infers("1");
         due("entries of the judgement ahead are gone", c.x.entryType(0, -1), -1);
+        c.keeps("/xx", 'i');
+        due("infers()", c.infers("/f/x@fx"), 0);
+        due("context", c.context(), "i:!a>aa ^4 ^5 ^0=>^0^1 ^1=>^0^1");
+        for (int i = 1; i <= 2; i++) {
+            due("kind of one that another one was split into", c.x.entry(i, 0), 2);
+            due("its SIGNS", c.x.entry(i, 2), 0);
+            for (int k = -2; k <= 1; k++) due("its entryType", c.x.entryType(i, k), -1);
+        }
     }
 
     // ---- 12 to 15: the shelf ----
@@ -773,6 +781,9 @@ public final class EdgeCallsTest {
         for (int i = 0; i < 200; i++) due("shelfBelow() of the " + i + "-th", c.x.shelfBelow(0, 0), 0);
         c.infers("&a1&b2&c3&d4@/x@/y@/z+a+b+c+d+x+yz 5 6 7");
         for (int i = 0; i < 200; i++) due("worked(3) of the " + i + "-th", c.x.worked(3), 28);
+        c = new Calls();
+        for (int i = 0; i < 100; i++) due("infers() of the " + i + "-th that is NOTED", c.infers(":1!a!b!c!d!e!f!g!hN"), 0);
+        due("its type", c.type(), "!a!b!c!d!e!f!g!hN");
         Calls.sentence("promise 11", "TOLD as it stands");
         c = new Calls();
         c.infers("/f@f1");
@@ -780,6 +791,25 @@ public final class EdgeCallsTest {
         due("the first that is come to", c.x.entryType(2, 2), '0');
         due("open GUESSES in its TYPE", c.x.judged(7), 1);
         due("the second that is come to", c.x.entryType(2, 4), '1');
+    }
+
+    /** Names of long types, as many as there is room for on the tape; each is gone before the next one comes. */
+    private static void longTypesNamed() {
+        Calls.sentence("2", "its NAME and that TYPE BY the CONTEXT come behind");
+        Calls c = new Calls();
+        for (int i = 0; i < 8; i++) c.keeps(",:/xx!a>aa" + Calls.tree(",", 73, "T"), (char) ('a' + i));
+        for (int i = 0; i < 8; i++) due("SIGNS of the " + i + "-th", c.x.shelf(i, 1), 150);
+        due("infers() of 96 LETS", c.infers(Calls.tree(",", 6, Calls.times("&xh", 16) + "*")), 0);
+        due("its type", c.type(), ",,O,OO,O,OO");
+        due("its steps", c.x.judged(1), 5 + 6 * 33);
+        due("by rule 12", c.x.byRule(12), 96);
+        due("the most entries", c.x.judged(5), 8 + 16);
+        due("entries at the end", c.x.judged(4), 8);
+        due("infers() of 16 LETS that are checked, and one that fails", c.infers(":" + Calls.times("&xh", 15) + "&yxz N"), 1);
+        due("entries at the end", c.x.judged(4), 8 + 16);
+        for (int i = 0; i < 24; i++) due("SIGNS of the entry " + i, c.x.entry(i, 2), 150);
+        due("the last of the type of the last", c.x.entryType(23, 150), 'B');
+        due("the one behind it", c.x.entryType(23, 151), -1);
     }
 
     public static void main(String[] args) {
@@ -812,6 +842,7 @@ public final class EdgeCallsTest {
         rules();
         manyCalls();
         rowsUsedAgain();
+        longTypesNamed();
         Calls.ends("EdgeCallsTest");
     }
 }

@@ -240,6 +240,17 @@ public final class EdgeTermsTest {
         ends("[" + E150, 0, 153, 8, "");
         ends("[" + E151, 2, 152, 8, "");
         ends("]" + E151, 2, 152, 8, "");
+        // too long comes ahead of what would fail, or would make a GUESS
+        ends("[/x1", 1, 6, 32, "^0 ^1=N");
+        ends("[/x" + Calls.tree(",", 75, "T"), 2, 154, 32, "^0 ^1=" + Calls.tree(",", 75, "B"));
+        Calls c = new Calls();
+        c.keeps(Calls.tree(",", 36, "/x1"), 'a');
+        due("SIGNS of the TYPE", c.x.shelf(0, 1), 179);
+        for (String text : new String[] {"[a", "]a", "@a1", "&xa1", ":aN", "a"}) {
+            due("infers() of " + text, c.infers(text), 2);
+            due("GUESSES made by " + text, c.x.judged(2), 0);
+            due("ENTRIES with " + text, c.x.judged(4), 1);
+        }
         Calls.sentence("2, what an EXPRESSION is checked against", words);
         ends(":1" + T150, 1, 5, 0, "c0");
         ends(":1" + T151, 2, 1, 9, "");
@@ -249,6 +260,40 @@ public final class EdgeTermsTest {
         Calls.sentence("2, what is below", words);
         ends(":" + E150 + "N", 1, 155, 0, "");
         ends(":" + E151 + "N", 2, 153, 8, "");
+    }
+
+    /** More than 150 SIGNS that are not yet taken BY the CONTEXT: what stands behind them is inferred first. */
+    private static void tooManySignsWithin() {
+        Calls.sentence("2, within a PAIR", "wherever one so taken has more than 150 SIGNS, it is TOO LONG");
+        ends("," + E151 + "1", 2, 153, 8, "");
+        ends(",1" + E151, 2, 153, 8, "");
+        ends(",1," + E151 + ",1T", 2, 157, 8, "");
+        ends("," + E151 + "z", 1, 153, 0, "");
+        Calls.sentence("2, of a then", "wherever one so taken has more than 150 SIGNS, it is TOO LONG");
+        ends("?T" + E151 + "1", 2, 155, 8, "");
+        ends("?T" + E151 + "z", 2, 155, 8, "");
+    }
+
+    /** A PAIR of what the note says and of two that are of 73 SIGNS BY the CONTEXT, of one each without it. */
+    private static String solved(String note) { return ",@:/y" + note.replace("TO", "x,xx"); }
+    private static void grownIn(String words, String text) {
+        String big = ">" + Calls.tree(",", 37, "N");
+        String wants = "wherever one so taken has more than 150 SIGNS, it is TOO LONG";
+        Calls.sentence("2, " + words, wants);
+        Calls c = new Calls();
+        due("infers() with 149", c.infers(text.replace("HERE", solved("1" + big + "NTO"))), 0);
+        due("infers() with 150", c.infers(text.replace("HERE", solved("1" + big + "!aNTO"))), 0);
+        due("infers() with 151", c.infers(text.replace("HERE", solved(",1 1" + big + ",NNTO"))), 2);
+        due("type with 151", c.type(), "none");
+        due("where with 151", c.x.judged(6), -1);
+        due("the last kind with 151", c.x.step(c.x.judged(1) - 1, 5), 1);
+        due("the last rule with 151", c.x.step(c.x.judged(1) - 1, 0), 7);
+    }
+    private static void tooManySignsByTheContext() {
+        grownIn("a LET that is checked", "/x&uHERE*");
+        grownIn("a LET that is inferred", "/x[,&uHERE*1");
+        grownIn("what is in a [", "/x[HERE");
+        grownIn("what is in a ]", "/x[]HERE");
     }
 
     /** The TYPE of x gets known only as what must be below it is inferred: it grows from 6 signs to so many. */
@@ -441,6 +486,20 @@ public final class EdgeTermsTest {
         due("worked(2) of " + text, c.x.worked(2), kind);
         due("worked(3) of " + text, c.x.worked(3), number);
     }
+    /** A function that calls itself within sums; none of these is worked out before the last call is: so many wait at once. */
+    private static String calls(int sums, int times) {
+        return "&f/g/n?<n " + times + Calls.times("+", sums) + "@@gg+n1" + Calls.times(" 1", sums) + " 0@@ff0";
+    }
+    private static void manyWait() {
+        Calls.sentence("3", "WORKED OUT from the left: + < both");
+        int[][] all = {{1, 27}, {1, 28}, {5, 17}, {5, 18}, {13, 10}, {13, 11}};
+        for (int[] one : all) {
+            // 8 ahead, 5 behind; a call has a ?, a <, two numbers, two @, two g, one function, what it is called with, the sums
+            int paces = 8 + 5 + one[1] * (12 + 2 * one[0]);
+            boolean tired = paces > 400;
+            worked(calls(one[0], one[1]), tired ? 1 : 0, Math.min(400, paces), tired ? -1 : 0, tired ? 0 : one[0] * one[1]);
+        }
+    }
     private static void goRound() {
         Calls.sentence("3", "numbers (ints that go round)");
         // 2 n + 1 of 0, thirty times: half of the greatest int
@@ -477,6 +536,8 @@ public final class EdgeTermsTest {
         endsTooEarly();
         ranks();
         tooManySigns();
+        tooManySignsWithin();
+        tooManySignsByTheContext();
         tooManySignsAbove();
         tooManySteps();
         tooManyEntries();
@@ -484,6 +545,7 @@ public final class EdgeTermsTest {
         toldOfBoth();
         numberedAnew();
         firstOutermost();
+        manyWait();
         goRound();
         aMillion();
         Calls.ends("EdgeTermsTest");
