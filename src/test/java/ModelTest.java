@@ -65,8 +65,7 @@ public final class ModelTest {
     }
     private String expression(Texts texts) {
         String e;
-        String scope = "";
-        for (int i = 0; i < model.shelf.size(); i++) scope += (char) ('a' + model.shelf.get(i).name);
+        String scope = onTheShelf();
         switch (texts.below(4)) {
             case 0: e = texts.any(1 + texts.below(6), scope); break;
             case 1: case 2: e = texts.right(1 + texts.below(6)); break;
@@ -134,10 +133,49 @@ public final class ModelTest {
         }
     }
 
+    private String onTheShelf() {
+        StringBuilder s = new StringBuilder();
+        for (int i = 0; i < model.shelf.size(); i++) s.append((char) ('a' + model.shelf.get(i).name));
+        return s.toString();
+    }
+    private void clear() {
+        run.append("\n  end(0)");
+        same("end(0)", real.end(0) ? 1 : 0, model.end(0) ? 1 : 0);
+    }
+    /** Long types on the shelf first; then what is made of their names alone. */
+    private void goWithAFullShelf(Texts texts) {
+        for (int name = texts.below(6) + 1; name >= 0; name--) {
+            clear();
+            feed(texts.forTheShelf(onTheShelf()));
+            call("infers()", real.infers(), model.infers());
+            state();
+            call("keeps(" + name + ")", real.keeps(name), model.keeps(name));
+        }
+        shelves();
+        for (int i = 0; i < 6 && !model.shelf.isEmpty(); i++) {
+            clear();
+            feed(texts.heavy(10 + texts.below(280), onTheShelf()));
+            faults();
+            int verdict = call("infers()", real.infers(), model.infers());
+            state();
+            others();
+            if (verdict == 0 && texts.once(2)) {
+                int name = texts.below(26);
+                call("drops()", real.drops(), model.drops());
+                call("keeps(" + name + ")", real.keeps(name), model.keeps(name));
+                shelves();
+            }
+            if (texts.once(3)) asks(texts);
+        }
+    }
+
     public static void main(String[] args) {
         long from = args.length > 0 ? Long.parseLong(args[0]) : 1;
         long many = args.length > 1 ? Long.parseLong(args[1]) : 2500;
-        for (long seed = from; seed < from + many && wrong == 0; seed++) new ModelTest().go(new Texts(seed));
+        for (long seed = from; seed < from + many && wrong == 0; seed++) {
+            new ModelTest().go(new Texts(seed));
+            if (seed % 10 == 0) new ModelTest().goWithAFullShelf(new Texts(seed));
+        }
         // a rule that no run comes to would not be tested
         for (int rule = 1; rule <= 36; rule++) {
             if (rules[rule] == 0) { System.out.println("no run came to rule " + rule); wrong++; }

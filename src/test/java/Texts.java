@@ -200,6 +200,21 @@ final class Texts {
         }
     }
 
+    private static final String[] RIGHT = {
+        "/f/g/x@f@gx", "/p,]p[p", "/f,@f1@f2", ":/f,@f1@fT>!a>aa,NB", "/x/y/z,x,yz", "/x,,xx,xx", "/f/x@f@f@fx", ":/xx!a>aa", "/x/y?xyy", "/x?<x1/yy/yy",
+        ":/f@ff>!a>aa!a>aa", "/p+[p]p", "/a/b/c/d,,ab,cd", ",/xx,/xx,/xx/xx", "/f/g,@f1@g,@f2T", ",:/xx!a>aa,:/x/yx!a!b>a>ba:/xx!a>aa", ":/k,@@k1T@@kT1>!a!b>a>ba,NB"
+    };
+    /** What is right, and long; of it and of the first and the last on the shelf longer ones are made. */
+    String forTheShelf(String scope) {
+        String one = RIGHT[below(RIGHT.length)];
+        switch (below(4)) {
+            case 0: return large();
+            case 1: return one;
+            case 2: return "," + one + "," + RIGHT[below(RIGHT.length)] + RIGHT[below(RIGHT.length)];
+            default: return scope.isEmpty() ? one : "," + scope.charAt(0) + "," + scope.charAt(scope.length() - 1) + one;
+        }
+    }
+
     // ---- texts with something wrong in them ----
     String spoilt(String s) {
         StringBuilder t = new StringBuilder(s);
